@@ -551,9 +551,8 @@ public final class MoorTriangles {
             }
             int c = leftOf(a, b);
             int d = leftOf(b, a);
-            int sideOfA = turn(c, d, xOf(a), yOf(a));
-            int sideOfB = turn(c, d, xOf(b), yOf(b));
-            return sideOfA < 0 && sideOfB > 0 || sideOfA > 0 && sideOfB < 0;
+            // As c is on the left of a to b, and d on its right, no other two sides can be different ones.
+            return turn(c, d, xOf(a), yOf(a)) < 0 && turn(c, d, xOf(b), yOf(b)) > 0;
         }
 
         // ---- changes
