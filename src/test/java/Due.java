@@ -6,6 +6,7 @@ final class Due {
 
     private static int wrong = 0;
     private static int asked = 0;
+    private static String section = "";
 
     private Due() {
     }
@@ -19,25 +20,18 @@ final class Due {
         }
     }
 
+    /** What the answers from here on are about. */
+    static void about(String sentence) {
+        section = sentence + ": ";
+    }
+
     static void is(String what, Object want, Call call) {
         asked++;
         String got = outcome(call);
         if (!got.equals(String.valueOf(want))) {
             wrong++;
-            System.out.println(what + " answered " + got + ", due is " + want);
+            System.out.println(section + what + " answered " + got + ", due is " + want);
         }
-    }
-
-    static void noIndex(String what, Call call) {
-        is(what, "throws IndexOutOfBoundsException", call);
-    }
-
-    static void noArgument(String what, Call call) {
-        is(what, "throws IllegalArgumentException", call);
-    }
-
-    static void noState(String what, Call call) {
-        is(what, "throws IllegalStateException", call);
     }
 
     static void end() {

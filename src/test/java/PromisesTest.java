@@ -1,8 +1,5 @@
 /** The document's promises one by one, with answers worked out by hand. */
-public final class PromisesTest {
-    private static final int[] NO_COORDINATES = {-1, 31, Integer.MIN_VALUE, Integer.MAX_VALUE};
-    private static final int[] NO_HEIGHTS = {-1, 100, Integer.MIN_VALUE, Integer.MAX_VALUE};
-
+public final class PromisesTest extends Facts {
     private PromisesTest() {
     }
 
@@ -31,77 +28,6 @@ public final class PromisesTest {
         mean();
         digest();
         Due.end();
-    }
-
-    /** Cairn 4 stands at (20, 10), 40 high, within the first triangle; edge 0 to 2 is unfair. */
-    private static MoorTriangles withOne() {
-        MoorTriangles moor = new MoorTriangles();
-        moor.build(20, 10, 40);
-        return moor;
-    }
-
-    private static MoorTriangles full() {
-        MoorTriangles moor = new MoorTriangles();
-        for (int i = 0; i < 12; i++) {
-            moor.build(2 + i * 11 % 27, 3 + i * 7 % 25, i);
-        }
-        return moor;
-    }
-
-    private interface Change {
-        Object on(MoorTriangles moor);
-    }
-
-    /** The call throws this, and the digest is the same behind it. */
-    private static void refused(String what, String exception, MoorTriangles moor, Change change) {
-        long before = moor.digest();
-        Due.is(what, "throws " + exception, () -> change.on(moor));
-        Due.is("digest behind " + what, before, moor::digest);
-    }
-
-    private static void noIndex(String what, MoorTriangles moor, Change change) {
-        refused(what, "IndexOutOfBoundsException", moor, change);
-    }
-
-    private static void noArgument(String what, MoorTriangles moor, Change change) {
-        refused(what, "IllegalArgumentException", moor, change);
-    }
-
-    private static void noState(String what, MoorTriangles moor, Change change) {
-        refused(what, "IllegalStateException", moor, change);
-    }
-
-    private static void triangles(String name, MoorTriangles moor, int[]... want) {
-        Due.is(name + ": count(1)", want.length, () -> moor.count(1));
-        for (int t = 0; t < want.length; t++) {
-            int number = t;
-            for (int what = 0; what < want[t].length; what++) {
-                int which = what;
-                Due.is(name + ": triangle(" + t + ", " + what + ")", want[t][what], () -> moor.triangle(number, which));
-            }
-        }
-    }
-
-    private static void counts(String name, MoorTriangles moor, int... want) {
-        for (int what = 0; what < want.length; what++) {
-            int which = what;
-            Due.is(name + ": count(" + what + ")", want[what], () -> moor.count(which));
-        }
-    }
-
-    private static void cairn(String name, MoorTriangles moor, int cairn, int... want) {
-        for (int what = 0; what < want.length; what++) {
-            int which = what;
-            Due.is(name + ": told(" + cairn + ", " + what + ")", want[what], () -> moor.told(cairn, which));
-        }
-    }
-
-    private static void edgeIs(String name, MoorTriangles moor, int a, int b, int... want) {
-        for (int what = 0; what < want.length; what++) {
-            int which = what;
-            Due.is(name + ": edge(" + a + ", " + b + ", " + what + ")", want[what], () -> moor.edge(a, b, which));
-            Due.is(name + ": edge(" + b + ", " + a + ", " + what + ")", want[what], () -> moor.edge(b, a, which));
-        }
     }
 
     // ---- Promise 1
@@ -490,19 +416,24 @@ public final class PromisesTest {
         }
     }
 
-    /** The fewest edges between two cairns, by what edge() tells. */
+    /** The fewest edges between two cairns, by what edge() tells; each edge is asked for once. */
     private static int steps(MoorTriangles moor, int a, int b) {
-        int[] taken = new int[moor.count(0)];
-        java.util.Arrays.fill(taken, 99);
-        taken[a] = 0;
-        for (int round = 0; round < taken.length; round++) {
-            for (int i = 0; i < taken.length; i++) {
-                for (int j = 0; j < taken.length; j++) {
-                    taken[i] = moor.edge(i, j, 0) == 1 ? Math.min(taken[i], taken[j] + 1) : taken[i];
+        int cairns = moor.count(0);
+        int[][] taken = new int[cairns][cairns];
+        for (int i = 0; i < cairns; i++) {
+            for (int j = 0; j < i; j++) {
+                taken[i][j] = moor.edge(i, j, 0) == 1 ? 1 : 99;
+                taken[j][i] = taken[i][j];
+            }
+        }
+        for (int by = 0; by < cairns; by++) {
+            for (int i = 0; i < cairns; i++) {
+                for (int j = 0; j < cairns; j++) {
+                    taken[i][j] = Math.min(taken[i][j], taken[i][by] + taken[by][j]);
                 }
             }
         }
-        return taken[b];
+        return taken[a][b];
     }
 
     // ---- Promise 16
