@@ -1,6 +1,7 @@
 /**
  * The boundary cases of the sentences that stand ahead of the promises, one test for each,
- * with answers worked out by hand from the document. No moor is asked more than 512 times.
+ * with answers worked out by hand from the document (those of the three runs of settling in
+ * order by another writing of the document). No moor is asked more than 512 times.
  */
 public final class TermsBoundaryTest extends Facts {
     private TermsBoundaryTest() {
