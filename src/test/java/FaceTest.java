@@ -42,7 +42,51 @@ public final class FaceTest {
         Due.is("constructors", "[public MoorTriangles()]", () -> Arrays.toString(face.getDeclaredConstructors()));
         Due.is("what the constructor throws", 0, () -> thrown(face.getDeclaredConstructors()));
         Due.is("one file, one class without a package", "", face::getPackageName);
+        Due.is("beyond LANGUAGE.md", "[]", () -> beyondTheLanguage(face));
         Due.end();
+    }
+
+    /** What breaks those of LANGUAGE.md's rules 1, 2, 5 and 11 that a compiled class shows. */
+    private static TreeSet<String> beyondTheLanguage(Class<?> face) {
+        TreeSet<String> found = new TreeSet<>();
+        TreeSet<String> open = new TreeSet<>();
+        for (Method method : face.getDeclaredMethods()) {
+            if (Modifier.isPublic(method.getModifiers())) {
+                open.add(method.getName());
+            }
+        }
+        addBroken(found, face, open);
+        for (Class<?> inside : face.getDeclaredClasses()) {
+            addBroken(found, inside, open);
+            int modifiers = inside.getModifiers();
+            if (Modifier.isPublic(modifiers) || Modifier.isProtected(modifiers) || !Modifier.isStatic(modifiers)) {
+                found.add("rule 1: class " + inside.getSimpleName());
+            }
+        }
+        return found;
+    }
+
+    private static void addBroken(TreeSet<String> found, Class<?> type, TreeSet<String> open) {
+        String in = type.getSimpleName() + ".";
+        for (Method method : type.getDeclaredMethods()) {
+            if (Modifier.isPrivate(method.getModifiers()) && open.contains(method.getName())) {
+                found.add("rule 1: " + in + method.getName());
+            }
+            if (method.getParameterCount() > 7) {
+                found.add("rule 11: " + in + method.getName());
+            }
+        }
+        int fields = 0;
+        for (Field field : type.getDeclaredFields()) {
+            boolean constant = Modifier.isStatic(field.getModifiers());
+            fields += constant ? 0 : 1;
+            if (constant && !Modifier.isFinal(field.getModifiers())) {
+                found.add("rule 5: " + in + field.getName());
+            }
+        }
+        if (fields > 20) {
+            found.add("rule 11: " + fields + " fields in " + in);
+        }
     }
 
     private static TreeSet<String> methods(Class<?> face) {

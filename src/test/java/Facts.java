@@ -41,6 +41,11 @@ abstract class Facts {
         return with(places);
     }
 
+    /** Cairn 4 on edge 0 to 2, amid all four corners. */
+    static MoorTriangles middle() {
+        return with(new int[] {15, 15});
+    }
+
     static MoorTriangles with(int[]... places) {
         MoorTriangles moor = new MoorTriangles();
         for (int[] place : places) {

@@ -36,6 +36,7 @@ public final class PromiseBoundaryTest extends Facts {
         would();
         mean();
         digest();
+        askingChangesNothing();
         Due.end();
     }
 
@@ -48,10 +49,6 @@ public final class PromiseBoundaryTest extends Facts {
         for (int[] p : NO_PLACES) {
             noArgument(name + "(" + p[0] + ", " + p[1] + ")", moor, m -> place.of(m, p[0], p[1]));
         }
-    }
-
-    private static MoorTriangles middle() {
-        return with(new int[] {15, 15});
     }
 
     private static void raiseAll(MoorTriangles moor, int height) {
@@ -203,6 +200,7 @@ public final class PromiseBoundaryTest extends Facts {
         raiseToTheSmallestAndGreatest();
         raiseBeyond();
         raiseWithBothWrong();
+        raiseFromNowOn();
     }
 
     private static void raiseTheFirstAndTheLast() {
@@ -260,11 +258,28 @@ public final class PromiseBoundaryTest extends Facts {
         }
     }
 
+    private static void raiseFromNowOn() {
+        Due.about("Promise 3: its height from now on");
+        MoorTriangles moor = withOne();
+        moor.raise(4, 77);
+        moor.raise(2, 33);
+        moor.build(10, 20, 5);
+        moor.flip(0, 2);
+        moor.settle();
+        Due.is("told(4, 2)", 77, () -> moor.told(4, 2));
+        Due.is("told(2, 2)", 33, () -> moor.told(2, 2));
+        Due.is("told(5, 2)", 5, () -> moor.told(5, 2));
+        Due.is("height(20, 10)", 77, () -> moor.height(20, 10));
+        Due.is("raise(2, 0)", 33, () -> moor.raise(2, 0));
+    }
+
     // ---- Promise 4
 
     private static void fix() {
         fixInnerAndBorderEdges();
         fixTwice();
+        fixFromNowOn();
+        fixUntilItNoLongerHasTo();
         fixAllOfThem();
         fixNoEdge();
         fixNoCairn();
@@ -292,6 +307,37 @@ public final class PromiseBoundaryTest extends Facts {
         Due.is("fix(1, 0, false)", true, () -> moor.fix(1, 0, false));
         Due.is("fix(0, 1, false)", false, () -> moor.fix(0, 1, false));
         Due.is("count(4)", 0, () -> moor.count(4));
+    }
+
+    private static void fixFromNowOn() {
+        Due.about("Promise 4: from now on, whatever is built and flipped around it");
+        MoorTriangles moor = new MoorTriangles();
+        moor.fix(0, 2, true);
+        moor.build(30, 20, 0);
+        moor.build(25, 10, 0);
+        edgeIs("behind building beside it", moor, 0, 2, 1, 0, 1, 1, 0);
+        // The triangle 0, 2, 4 of this edge becomes 0, 2, 5, and then 0, 2, 4 again.
+        Due.is("flip(0, 4)", 16 * 2 + 5, () -> moor.flip(0, 4));
+        edgeIs("behind a flip beside it", moor, 0, 2, 1, 0, 1, 1, 0);
+        Due.is("flip(2, 5)", 16 * 0 + 4, () -> moor.flip(2, 5));
+        edgeIs("behind a flip back", moor, 0, 2, 1, 0, 1, 1, 0);
+        edgeIs("the one that was flipped", moor, 0, 4, 1, 0, 0, 1, 1);
+        Due.is("count(4)", 1, () -> moor.count(4));
+        Due.is("fix(2, 0, true)", true, () -> moor.fix(2, 0, true));
+    }
+
+    private static void fixUntilItNoLongerHasTo() {
+        Due.about("Promise 4: an edge that is flipped away and back does not have to stay");
+        MoorTriangles moor = new MoorTriangles();
+        moor.fix(0, 2, true);
+        moor.fix(0, 2, false);
+        moor.flip(0, 2);
+        edgeIs("flipped to", moor, 1, 3, 1, 0, 0, 0, 1);
+        moor.fix(1, 3, true);
+        moor.fix(3, 1, false);
+        moor.flip(1, 3);
+        edgeIs("flipped back", moor, 0, 2, 1, 0, 0, 0, 1);
+        Due.is("fix(0, 2, false)", false, () -> moor.fix(0, 2, false));
     }
 
     private static void fixAllOfThem() {
@@ -1282,5 +1328,38 @@ public final class PromiseBoundaryTest extends Facts {
         numbers.set(edges + 17, 0);
         numbers.set(edges + 19, 1);
         Due.is("digest() when it no longer has to", wrapped(numbers), moor::digest);
+    }
+
+    // ---- Not promised
+
+    private static void askingChangesNothing() {
+        Due.about("Nothing beyond the state changes described: asking changes nothing");
+        MoorTriangles moor = with(new int[] {30, 20}, new int[] {25, 10}, new int[] {3, 14});
+        moor.fix(0, 2, true);
+        moor.flip(0, 4);
+        moor.raise(4, 50);
+        keeps("told", moor, () -> moor.told(4, 3));
+        keeps("triangle", moor, () -> moor.triangle(1, 3));
+        keeps("edge", moor, () -> moor.edge(0, 2, 3));
+        keeps("count", moor, () -> moor.count(5));
+        keeps("at", moor, () -> moor.at(17, 9));
+        keeps("height", moor, () -> moor.height(17, 9));
+        keeps("nearest", moor, () -> moor.nearest(17, 9));
+        keeps("circles", moor, () -> moor.circles(17, 9));
+        keeps("way", moor, () -> moor.way(1, 3));
+        keeps("settles", moor, moor::settles);
+        keeps("would, within", moor, () -> moor.would(17, 9));
+        keeps("would, on an edge that stays", moor, () -> moor.would(10, 10));
+        keeps("mean", moor, moor::mean);
+        keeps("digest", moor, moor::digest);
+        Due.is("build(17, 9, 0)", 7, () -> moor.build(17, 9, 0));
+    }
+
+    /** Asked twice, the call answers the same, and the digest is as before. */
+    private static void keeps(String name, MoorTriangles moor, Due.Call call) {
+        long before = moor.digest();
+        String answer = Due.outcome(call);
+        Due.is(name + " again", answer, call);
+        Due.is("digest() behind " + name, before, moor::digest);
     }
 }

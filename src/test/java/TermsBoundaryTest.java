@@ -140,6 +140,8 @@ public final class TermsBoundaryTest extends Facts {
 
     private static void triangles() {
         theSquareIsCovered();
+        noneOverlaps();
+        noCairnInOneButItsCorners();
         twoAtFirst();
         theSmallestTriangle();
         asFewAsThereCanBe();
@@ -167,6 +169,84 @@ public final class TermsBoundaryTest extends Facts {
         inner.settle();
         Due.is("areas settled, with all at the border", 1800, () -> areas(border));
         Due.is("areas settled, with none at the border", 1800, () -> areas(inner));
+    }
+
+    /** The corners' places of each triangle, as the moor tells them: x, y, x, y, x, y. */
+    private static int[][] cut(MoorTriangles moor) {
+        int[][] cut = new int[moor.count(1)][6];
+        for (int triangle = 0; triangle < cut.length; triangle++) {
+            for (int corner = 0; corner < 3; corner++) {
+                int cairn = moor.triangle(triangle, corner);
+                cut[triangle][2 * corner] = moor.told(cairn, 0);
+                cut[triangle][2 * corner + 1] = moor.told(cairn, 1);
+            }
+        }
+        return cut;
+    }
+
+    /** 1 if the place is within the triangle, 0 if it is on an edge or at a corner, else -1; told by twice its x and y. */
+    private static int within(int[] t, int x, int y) {
+        int least = 1;
+        int greatest = -1;
+        for (int i = 0; i < 6; i += 2) {
+            int j = (i + 2) % 6;
+            int turn = (t[j] - t[i]) * (y - 2 * t[i + 1]) - (t[j + 1] - t[i + 1]) * (x - 2 * t[i]);
+            least = Math.min(least, Integer.signum(turn));
+            greatest = Math.max(greatest, Integer.signum(turn));
+        }
+        return least * greatest;
+    }
+
+    private static void noneOverlaps() {
+        Due.about("They cover the square without overlapping: every place, also halfway between two");
+        MoorTriangles settled = fan();
+        settled.settle();
+        MoorTriangles settledInside = inside();
+        settledInside.settle();
+        MoorTriangles[] moors = {new MoorTriangles(), withOne(), fan(), settled, inside(), settledInside, full()};
+        for (MoorTriangles moor : moors) {
+            int[][] cut = cut(moor);
+            for (int x = 0; x <= 60; x++) {
+                for (int y = 0; y <= 60; y++) {
+                    oneAt(cut, x, y);
+                }
+            }
+        }
+    }
+
+    private static void oneAt(int[][] cut, int x, int y) {
+        int touched = 0;
+        int within = 0;
+        for (int[] triangle : cut) {
+            touched += within(triangle, x, y) >= 0 ? 1 : 0;
+            within += within(triangle, x, y) == 1 ? 1 : 0;
+        }
+        boolean once = touched == 1 || touched > 1 && within == 0;
+        Due.is("once at (" + x + " / 2, " + y + " / 2)", true, () -> once);
+    }
+
+    private static void noCairnInOneButItsCorners() {
+        Due.about("No cairn is in a triangle or on its edges but its corners");
+        MoorTriangles settled = fan();
+        settled.settle();
+        MoorTriangles[] moors = {middle(), withOne(), fan(), settled, inside(), full()};
+        for (MoorTriangles moor : moors) {
+            int[][] cut = cut(moor);
+            int cairns = moor.count(0);
+            for (int cairn = 0; cairn < cairns; cairn++) {
+                int x = 2 * moor.told(cairn, 0);
+                int y = 2 * moor.told(cairn, 1);
+                int touched = 0;
+                for (int[] triangle : cut) {
+                    touched += within(triangle, x, y) >= 0 ? 1 : 0;
+                }
+                int found = touched;
+                int corner = cairn;
+                // As many as have it as their corner.
+                Due.is("triangles that cairn " + cairn + " touches", Due.outcome(() -> moor.told(corner, 4)),
+                        () -> found);
+            }
+        }
     }
 
     private static void twoAtFirst() {
@@ -222,6 +302,7 @@ public final class TermsBoundaryTest extends Facts {
     // ---- An edge can be flipped
 
     private static void edgesThatCanBeFlipped() {
+        betweenCornersOfATriangle();
         fromBothEnds();
         notABorderEdge();
         notOneThatHasToStay();
@@ -230,6 +311,36 @@ public final class TermsBoundaryTest extends Facts {
         justBelow180();
         withAnAreaOfOne();
         flippedThereAndBack();
+    }
+
+    private static void betweenCornersOfATriangle() {
+        Due.about("Between two corners of some triangle; a border edge, if of one alone, otherwise of two");
+        MoorTriangles settled = fan();
+        settled.settle();
+        MoorTriangles[] moors = {new MoorTriangles(), middle(), fan(), settled, inside(), full()};
+        for (MoorTriangles moor : moors) {
+            int cairns = moor.count(0);
+            int[][] triangles = new int[cairns][cairns];
+            int count = moor.count(1);
+            for (int triangle = 0; triangle < count; triangle++) {
+                int a = moor.triangle(triangle, 0);
+                int b = moor.triangle(triangle, 1);
+                int c = moor.triangle(triangle, 2);
+                triangles[a][b]++;
+                triangles[a][c]++;
+                triangles[b][c]++;
+            }
+            for (int a = 0; a < cairns; a++) {
+                for (int b = a + 1; b < cairns; b++) {
+                    int from = a;
+                    int to = b;
+                    int of = triangles[a][b];
+                    Due.is("edge(" + a + ", " + b + ", 0)", of > 0 ? 1 : 0, () -> moor.edge(from, to, 0));
+                    Due.is("edge(" + b + ", " + a + ", 1)", of == 1 ? 1 : 0, () -> moor.edge(to, from, 1));
+                    Due.is("triangles of " + a + " to " + b + " are two at most", true, () -> of <= 2);
+                }
+            }
+        }
     }
 
     private static void fromBothEnds() {
@@ -267,7 +378,7 @@ public final class TermsBoundaryTest extends Facts {
 
     private static void notWithACornerOf180() {
         Due.about("Without a corner of 180 degrees");
-        MoorTriangles middle = with(new int[] {15, 15});
+        MoorTriangles middle = middle();
         for (int corner = 0; corner < 4; corner++) {
             int other = corner;
             edgeIs("4 is between two corners", middle, other, 4, 1, 0, 0, 0, 0);
@@ -556,7 +667,7 @@ public final class TermsBoundaryTest extends Facts {
         long before = moor.digest();
         Due.is("settle()", 0, moor::settle);
         Due.is("digest()", before, moor::digest);
-        MoorTriangles middle = with(new int[] {15, 15});
+        MoorTriangles middle = middle();
         Due.is("settle() with 15 at the centre", 0, middle::settle);
     }
 
